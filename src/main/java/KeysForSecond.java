@@ -196,7 +196,8 @@ public final class KeysForSecond {
         if (!within(n, 0, LONG_RUN) || !(ofTown || ofOne)) {
             return BAD;
         }
-        thinkAhead(n);
+        thought.become(now);
+        passThought(n);
         if (ofTown) {
             return what == 0 ? thought.doorsWithSecond() : what == 1 ? thought.doorsWithFirst() : thought.allBehind();
         }
@@ -284,7 +285,8 @@ public final class KeysForSecond {
         if (!within(n, 0, SHORT_RUN) || !within(what, 0, 1)) {
             return BAD;
         }
-        thinkAhead(n);
+        thought.become(now);
+        passThought(n);
         int best = NONE;
         int most = Integer.bitCount(thought.doorsWithSecond());
         for (int p = 0; p < now.people; p++) {
@@ -357,7 +359,7 @@ public final class KeysForSecond {
             } else {
                 thought.more[p] = v;
             }
-            bits |= bitIfTold(s, p, v);
+            bits |= otherwise(sheets[s], p) == NONE ? 1 << v : 0;
         }
         return bits;
     }
@@ -371,7 +373,7 @@ public final class KeysForSecond {
         for (int d = 0; d < DOORS; d++) {
             thought.become(now);
             thought.at[p] = d;
-            bits |= bitIfTold(s, p, d);
+            bits |= otherwise(sheets[s], p) == NONE ? 1 << d : 0;
         }
         return bits;
     }
@@ -410,7 +412,7 @@ public final class KeysForSecond {
             if (q == MOST_PEOPLE || isPerson(q)) {
                 thought.become(now);
                 thought.first[d] = q == MOST_PEOPLE ? NONE : q;
-                bits |= bitIfTold(s, p, q);
+                bits |= otherwise(sheets[s], p) == NONE ? 1 << q : 0;
             }
         }
         return bits;
@@ -424,7 +426,7 @@ public final class KeysForSecond {
         int bits = 0;
         for (int p = 0; p < now.people; p++) {
             thought.become(now);
-            bits |= bitIfTold(s, p, p);
+            bits |= otherwise(sheets[s], p) == NONE ? 1 << p : 0;
         }
         return bits;
     }
@@ -438,7 +440,7 @@ public final class KeysForSecond {
         for (int t = 0; t < textsThere; t++) {
             thought.become(now);
             thought.law = t;
-            bits |= bitIfTold(s, p, t);
+            bits |= otherwise(sheets[s], p) == NONE ? 1 << t : 0;
         }
         return bits;
     }
@@ -486,10 +488,6 @@ public final class KeysForSecond {
             }
         }
         return NONE;
-    }
-
-    private int bitIfTold(int s, int p, int bit) {
-        return otherwise(sheets[s], p) == NONE ? 1 << bit : 0;
     }
 
     // ---- days by lots
@@ -655,11 +653,6 @@ public final class KeysForSecond {
     }
 
     // ---- what many calls need
-
-    private void thinkAhead(int n) {
-        thought.become(now);
-        passThought(n);
-    }
 
     private void passThought(int n) {
         for (int i = 0; i < n; i++) {
@@ -948,9 +941,8 @@ public final class KeysForSecond {
         }
 
         int worth(int part, int[] names) {
-            int from = part == TO_TRY ? 0 : ends[part - 1];
             int top = -1;
-            for (int i = from; i < ends[part]; i++) {
+            for (int i = part == TO_TRY ? 0 : ends[part - 1]; i < ends[part]; i++) {
                 int step = steps[i];
                 if (step >= 0 || isName(-step)) {
                     if (top + 1 < stack.length) {
@@ -959,7 +951,7 @@ public final class KeysForSecond {
                     }
                 } else if (step == -OPPOSITE || step == -NOT) {
                     if (top >= 0) {
-                        stack[top] = step == -NOT ? truth(stack[top] == 0) : -stack[top];
+                        stack[top] = step == -OPPOSITE ? -stack[top] : stack[top] == 0 ? 1 : 0;
                     }
                 } else if (top >= 1) {
                     top--;
@@ -975,18 +967,14 @@ public final class KeysForSecond {
 
         private static int joined(int token, int left, int right) {
             switch (token) {
-                case OR: return truth(left != 0 || right != 0);
-                case AND: return truth(left != 0 && right != 0);
-                case '<': return truth(left < right);
-                case '=': return truth(left == right);
+                case OR: return left != 0 || right != 0 ? 1 : 0;
+                case AND: return left != 0 && right != 0 ? 1 : 0;
+                case '<': return left < right ? 1 : 0;
+                case '=': return left == right ? 1 : 0;
                 case '+': return left + right;
                 case '-': return left - right;
                 default: return left * right;
             }
-        }
-
-        private static int truth(boolean so) {
-            return so ? 1 : 0;
         }
     }
 
@@ -1115,10 +1103,13 @@ public final class KeysForSecond {
         /** All that binds at this rank or tighter, while so many nestings are open. */
         private void side(Text text, int rank, int open) {
             if (rank == RANK_LIKE && tape.token == NOT) {
-                if (opens(open)) {
-                    side(text, RANK_LIKE, open + 1);
-                    text.add(-NOT);
+                if (open >= MOST_OPEN) {
+                    refuse();
+                    return;
                 }
+                tape.advance();
+                side(text, RANK_LIKE, open + 1);
+                text.add(-NOT);
                 return;
             }
             if (rank >= RANK_ONE) {
@@ -1137,35 +1128,26 @@ public final class KeysForSecond {
 
         private void one(Text text, int open) {
             int token = tape.token;
-            if (token == NUMBER) {
-                text.add(tape.number);
-                tape.advance();
-            } else if (Text.isName(token)) {
-                text.add(-token);
-                tape.advance();
-            } else if (token == '-') {
-                if (opens(open)) {
-                    one(text, open + 1);
-                    text.add(-OPPOSITE);
-                }
-            } else if (token == '(') {
-                if (opens(open)) {
-                    side(text, RANK_OR, open + 1);
-                    expect(')');
-                }
-            } else {
+            int number = tape.number;
+            boolean opening = token == '-' || token == '(';
+            if (token != NUMBER && !Text.isName(token) && !(opening && open < MOST_OPEN)) {
                 refuse();
-            }
-        }
-
-        /** Steps into one nesting more, or refuses it. */
-        private boolean opens(int open) {
-            if (open >= MOST_OPEN) {
-                refuse();
-                return false;
+                return;
             }
             tape.advance();
-            return true;
+            if (token == '-') {
+                one(text, open + 1);
+                text.add(-OPPOSITE);
+            } else if (token == '(') {
+                side(text, RANK_OR, open + 1);
+                if (tape.token == ')') {
+                    tape.advance();
+                } else {
+                    refuse();
+                }
+            } else {
+                text.add(token == NUMBER ? number : -token);
+            }
         }
 
         private static int rankOf(int token) {
