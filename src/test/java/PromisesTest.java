@@ -280,6 +280,10 @@ public final class PromisesTest {
         fine(" \n tries\n1 ; pays 2 ; goes 1 ; \n");
         fault("", 0);
         fault("   ", 3);
+        fault(" ".repeat(155) + "tries", 160);
+        fault("tries" + " ".repeat(154) + "1", 160);
+        fault("tries" + " ".repeat(154) + "-", 160);
+        fault("tries" + " ".repeat(154) + "x", 159);
         fault("pays 1;", 0);
         fault("tries", 5);
         fault("tries 1", 7);
@@ -320,6 +324,9 @@ public final class PromisesTest {
         faultIn("and 1", 0);
         faultIn("1 or", 4);
         faultIn("1 door", 2);
+        faultIn("1 goes 1", 2);
+        faultIn("1 tries 1", 2);
+        faultIn("1 pays 1", 2);
         faultIn("1door", 1);
         fineIn("1or door");
         faultIn("door 1", 5);
