@@ -10,6 +10,7 @@ import java.util.Random;
 public final class RandomRunsTest {
     private static final int RUNS = 1500;
     private static final int CALLS = 512;
+    private static final int TEXTS = 20000;
 
     private static final String[] NAMES = {
         "count", "town", "door", "feed", "text", "force", "asks", "citizen", "put", "told",
@@ -28,7 +29,13 @@ public final class RandomRunsTest {
             }
             calls += CALLS;
         }
-        System.out.println(RUNS + " runs, " + calls + " calls, all agree with the model");
+        for (int i = 0; i < TEXTS; i++) {
+            Run one = new Run(i);
+            if (!one.agreesOnText()) {
+                System.exit(1);
+            }
+        }
+        System.out.println(RUNS + " runs, " + calls + " calls, " + TEXTS + " texts, all agree with the model");
     }
 
     /** One run: the class, the model, and what has been called so far. */
@@ -39,6 +46,7 @@ public final class RandomRunsTest {
         final Model model = new Model();
         final List<String> told = new ArrayList<>();
         String textToFeed = "";
+        int[] film = {0, 0, 0};
 
         Run(int number) {
             this.number = number;
@@ -68,6 +76,30 @@ public final class RandomRunsTest {
             return true;
         }
 
+        /** A text, its fault or its number, and what it says of somebody. */
+        boolean agreesOnText() {
+            textToFeed = new Texts(random).text();
+            told.add(textToFeed);
+            while (!textToFeed.isEmpty()) {
+                int[] a = feeding();
+                if (real("feed", a) != model.call("feed", a)) {
+                    return fails("feed", a, "differs", 0);
+                }
+            }
+            int[][] calls = {{}, {random.nextInt(60), random.nextInt(800)}, {0, random.nextInt(2), random.nextInt(100)},
+                {1}, {0, 0}, {1, 0}, {2, 0}, {0, 5}, {0, 6}, {0, 7}, {0}, {0, 0}, {1, 0}, {2, 0}};
+            String[] names = {"text", "citizen", "town",
+                "force", "asks", "asks", "asks", "told", "told", "told", "twist", "asks", "asks", "asks"};
+            for (int i = 0; i < calls.length; i++) {
+                long want = model.call(names[i], calls[i]);
+                long got = real(names[i], calls[i]);
+                if (got != want) {
+                    return fails(names[i], calls[i], "answered " + got, want);
+                }
+            }
+            return true;
+        }
+
         boolean fails(String name, int[] a, String what, long want) {
             for (String row : told) {
                 System.out.println("  " + row);
@@ -82,17 +114,20 @@ public final class RandomRunsTest {
         }
 
         String next() {
-            if (random.nextInt(12) == 0) {
-                textToFeed = new Texts(random).text();
-                return "feed";
-            }
-            if (model.tape.length() > 0 && random.nextInt(3) == 0) {
+            boolean full = model.texts.size() == 6;
+            if (model.tape.length() > 0 && random.nextInt(full ? 30 : 3) == 0) {
                 return "text";
             }
-            if (random.nextInt(6) == 0) {
-                return random.nextBoolean() ? "minute" : "film";
+            if (random.nextInt(full ? 100 : 12) == 0) {
+                textToFeed = new Texts(random).text();
+                return model.tape.length() > 0 ? "text" : "feed";
             }
-            return NAMES[random.nextInt(NAMES.length)];
+            if (random.nextInt(8) == 0) {
+                return random.nextInt(4) == 0 ? "minute" : "film";
+            }
+            String name = NAMES[random.nextInt(NAMES.length)];
+            boolean seldom = name.equals("feed") || name.equals("back") || name.equals("sheet");
+            return seldom && random.nextInt(4) != 0 ? "laws" : name;
         }
 
         int pick(int least, int most) {
@@ -139,11 +174,11 @@ public final class RandomRunsTest {
                 case "stand": return new int[] {person(), pick(0, 40), pick(0, 1)};
                 case "rounds": return new int[] {pick(0, 40), pick(0, 1)};
                 case "share": return new int[] {person(), pick(0, 1)};
-                case "judge": case "doors": case "laws": return new int[] {pick(0, 3), person()};
-                case "kinds": case "baskets": return new int[] {pick(0, 3), person(), pick(0, 1)};
-                case "firsts": return new int[] {pick(0, 3), person(), pick(0, 7)};
-                case "whose": return new int[] {pick(0, 3)};
-                case "film": return new int[] {pick(0, 3), person(), pick(0, random.nextBoolean() ? 4 : 20)};
+                case "judge": case "doors": case "laws": return new int[] {filmed(0), filmed(1)};
+                case "kinds": case "baskets": return new int[] {filmed(0), filmed(1), pick(0, 1)};
+                case "firsts": return new int[] {filmed(0), filmed(1), pick(0, 7)};
+                case "whose": return new int[] {filmed(0)};
+                case "film": return film = new int[] {pick(0, 3), person(), pick(0, random.nextBoolean() ? 4 : 20)};
                 case "drawn": return new int[] {pick(0, 99999), pick(0, 60), pick(0, 1)};
                 case "odds": return new int[] {pick(0, 99999), pick(1, 40), pick(0, 8), pick(0, 1)};
                 case "sheet": return new int[] {pick(0, 3), pick(-1, 2), pick(0, 40)};
@@ -152,6 +187,11 @@ public final class RandomRunsTest {
                 case "peopleBy": return new int[] {pick(0, 3), pick(0, 2), pick(0, 12), pick(0, 6)};
                 default: return new int[] {pick(0, 13), pick(0, 6)};
             }
+        }
+
+        /** Mostly the sheet (0) and the one (1) of the last film, so that what it tells is often so. */
+        int filmed(int i) {
+            return random.nextInt(4) != 0 ? film[i] : i == 0 ? pick(0, 3) : person();
         }
 
         int cellValue() {
