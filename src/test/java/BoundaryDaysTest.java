@@ -46,9 +46,6 @@ public final class BoundaryDaysTest extends BoundaryKit {
             refused(-2, "drawn", 99999, 60, what);
         }
         due("of nobody", new KeysForSecond().drawn(100000, 0, 0), -2);
-        asked("drawn", 0, 0, 0);
-        asked("drawn", 99999, 60, 0);
-        asked("drawn", 99999, 60, 1);
     }
 
     // What is due of lots in these two promises was counted apart, by the document's words and a few lines of Python.
@@ -62,6 +59,22 @@ public final class BoundaryDaysTest extends BoundaryKit {
         due("seed 99999", x.drawn(99999, 60, 1), 44);
         due("seed 0, five tries", x.drawn(0, 5, 1), 0);
         due("seed 0, six tries", x.drawn(0, 6, 0), 128);
+    }
+
+    @Says("LOTS: the first is (SEED and 1) times 48271 modulo 2147483647, "
+        + "each further one the last times 48271 modulo 2147483647.")
+    static void promise31_lotsByHand() {
+        // Of seed 0: 48271, 182605794, 1291394886, 1914720637: 1 tries door 2, 0 tries door 5.
+        // Of seed 99999: 100000 times 48271 is 4827100000, less 4294967294 is 532132706: 2 tries a door, which is 7.
+        int[][] rows = {{0, 1, 2, 1}, {0, 2, 5, 0}, {99999, 1, 7, 2}};
+        for (int[] row : rows) {
+            for (int p = 0; p < 6; p++) {
+                KeysForSecond x = many(6);
+                x.town(2, row[2], p);
+                due("doors of " + row[0], x.drawn(row[0], row[1], 0), p == row[3] ? 0 : 1 << row[2]);
+                due("how many of " + row[0], x.drawn(row[0], row[1], 1), p == row[3] ? 0 : 1);
+            }
+        }
     }
 
     @Says("DAYS by a SEED of n TRIES (0 .. 60)")
@@ -102,6 +115,13 @@ public final class BoundaryDaysTest extends BoundaryKit {
         }
     }
 
+    @Says("What is asked changes nothing, but where it is told.")
+    static void promise31_askedChangesNothing() {
+        asked("drawn", 0, 0, 0);
+        asked("drawn", 99999, 60, 0);
+        asked("drawn", 99999, 60, 1);
+    }
+
     // ---- 32: odds
 
     private static void odds(KeysForSecond x, int seed, int seeds, int least, int above, int below) {
@@ -124,8 +144,6 @@ public final class BoundaryDaysTest extends BoundaryKit {
         for (int part : new int[] {-1, 2, MIN, MAX}) {
             refused(NO, "odds", 0, 1, 0, part);
         }
-        asked("odds", 0, 40, 8, 0);
-        asked("odds", 99999, 40, 0, 1);
     }
 
     @Says("By how many of so many (1 .. 40) seeds, SEED and each 1 more")
@@ -180,6 +198,12 @@ public final class BoundaryDaysTest extends BoundaryKit {
         odds(many(1), 99999, 40, 1, 0, 1);
         odds(many(2), 0, 40, 1, 7, 20);
         odds(many(2), 0, 40, 2, 1, 10);
+    }
+
+    @Says("What is asked changes nothing, but where it is told.")
+    static void promise32_askedChangesNothing() {
+        asked("odds", 0, 40, 8, 0);
+        asked("odds", 99999, 40, 0, 1);
     }
 
     // ---- 33: image
@@ -765,8 +789,6 @@ public final class BoundaryDaysTest extends BoundaryKit {
                 due("kind " + kind + " as " + as, x.taken(1, as), is ? 1 : -13);
             }
         }
-        asked("taken", 0, 0);
-        asked("taken", 5, 0);
     }
 
     @Says("What lies at place i: 0 .. 5 PEOPLE, 6 .. 13 DOORS")
@@ -782,6 +804,24 @@ public final class BoundaryDaysTest extends BoundaryKit {
                 due("a door as one of kind " + kind, x.taken(i, kind), -13);
             }
         }
+    }
+
+    @Says("6 a DOOR: what is BEHIND.")
+    static void promise39_peopleAreNoDoors() {
+        KeysForSecond x = many(6);
+        for (int i = 0; i < 6; i++) {
+            due("one as a door", x.taken(i, 6), -13);
+        }
+        for (int d = 0; d < 8; d++) {
+            x.town(1, d, 90 + d);
+            due("door " + d, x.taken(6 + d, 6), 90 + d);
+        }
+    }
+
+    @Says("What is asked changes nothing, but where it is told.")
+    static void promise39_askedChangesNothing() {
+        asked("taken", 0, 0);
+        asked("taken", 5, 0);
         asked("taken", 6, 6);
         asked("taken", 13, 6);
     }

@@ -84,6 +84,17 @@ public final class BoundaryMinutesTest extends BoundaryKit {
         due("came of 0", x.told(0, 2), 1);
     }
 
+    @Says("one is its SECOND and its FIRST then.")
+    static void promise12_secondAndFirst() {
+        KeysForSecond x = people(0, 0, 0, 0);
+        x.town(2, 0, 1);
+        due("2", x.twist(0), 2);
+        due("first", x.door(0, 0), 0);
+        due("second", x.door(0, 1), 0);
+        due("another door's first", x.door(1, 0), -1);
+        due("another door's second", x.door(1, 1), -1);
+    }
+
     @Says("as one PAYS, no more than one has,")
     static void promise12_paysNoMoreThanOneHas() {
         int[] paid = {0, 1, 2, 3, 3, 3};
@@ -373,10 +384,6 @@ public final class BoundaryMinutesTest extends BoundaryKit {
             refused(-2, "run", 0, what);
             refused(-2, "run", 60, what);
         }
-        for (int what : new int[] {0, 1, 2, 10, 15, 20, 25, 30, 35}) {
-            asked("run", 0, what);
-            asked("run", 60, what);
-        }
     }
 
     @Says("the DOOR who is numbered what less 10 is AT (10 ..)")
@@ -392,6 +399,19 @@ public final class BoundaryMinutesTest extends BoundaryKit {
         due("came of the last one", x.run(0, 35), 0);
         due("doors of nobody", new KeysForSecond().run(60, 0), 0);
         due("behind for nobody", new KeysForSecond().run(60, 2), 80);
+    }
+
+    @Says("EGGS of who is numbered what less 20 (20 ..), CAME of who is numbered what less 30 (30 ..)")
+    static void promise15_theFirstOfEachTen() {
+        KeysForSecond x = people(50, 407, 50, 408);
+        x.twist(1);
+        x.twist(0);
+        due("door of 0", x.run(0, 10), 4);
+        due("eggs of 0", x.run(0, 20), 16);
+        due("came of 0", x.run(0, 30), 1);
+        due("door of 1", x.run(0, 11), 4);
+        due("eggs of 1", x.run(0, 21), 9);
+        due("came of 1", x.run(0, 31), 0);
     }
 
     @Says("DOORS (bits) with a SECOND then (what 0), with a FIRST (1), BEHIND of all, together (2)")
@@ -437,15 +457,20 @@ public final class BoundaryMinutesTest extends BoundaryKit {
         due("99 at most", x.run(9, 31), 99);
     }
 
+    @Says("What is asked changes nothing, but where it is told.")
+    static void promise15_askedChangesNothing() {
+        for (int what : new int[] {0, 1, 2, 10, 15, 20, 25, 30, 35}) {
+            asked("run", 0, what);
+            asked("run", 60, what);
+        }
+    }
+
     // ---- 16: when
 
     @Says("-7: what.")
     static void promise16_noSuchWhat() {
         for (int what : new int[] {-1, 10, MIN, MAX}) {
             refused(-7, "when", what);
-        }
-        for (int what = 0; what <= 9; what++) {
-            asked("when", what);
         }
     }
 
@@ -468,6 +493,16 @@ public final class BoundaryMinutesTest extends BoundaryKit {
         due("not by then", inMinute61().when(3), -1);
     }
 
+    @Says("DOOR what (0 .. 7) has a SECOND")
+    static void promise16_eachDoor() {
+        for (int d = 0; d < 8; d++) {
+            KeysForSecond x = people(50, 100 * d, 50, 100 * d);
+            for (int what = 0; what < 8; what++) {
+                due("door " + what, x.when(what), what == d ? 1 : -1);
+            }
+        }
+    }
+
     @Says("-1: not by then.")
     static void promise16_notByThen() {
         for (int what = 0; what <= 8; what++) {
@@ -476,6 +511,13 @@ public final class BoundaryMinutesTest extends BoundaryKit {
         }
         KeysForSecond x = ruled("minute = 19", "1", "0", 0, 0, 0, 0);
         due("shut again with the minute that opens it", x.when(0), -1);
+    }
+
+    @Says("(a -1 that is an answer comes behind the refusal of a number)")
+    static void promise16_aRefusalAheadOfNotByThen() {
+        for (int what : new int[] {-1, 10}) {
+            due("nobody is there", new KeysForSecond().when(what), -7);
+        }
     }
 
     @Says("all DOORS have one (8)")
@@ -525,6 +567,13 @@ public final class BoundaryMinutesTest extends BoundaryKit {
         due("9999 still", x.count(1), 9999);
     }
 
+    @Says("What is asked changes nothing, but where it is told.")
+    static void promise16_askedChangesNothing() {
+        for (int what = 0; what <= 9; what++) {
+            asked("when", what);
+        }
+    }
+
     // ---- 17: waits
 
     @Says("-5: none such.")
@@ -534,9 +583,6 @@ public final class BoundaryMinutesTest extends BoundaryKit {
         }
         due("nobody is there", new KeysForSecond().waits(0), -5);
         due("one is there", people(0, 0).waits(1), -5);
-        for (int p = 0; p < 6; p++) {
-            asked("waits", p);
-        }
     }
 
     @Says("(1 .. 60; 1: the next one)")
@@ -572,6 +618,13 @@ public final class BoundaryMinutesTest extends BoundaryKit {
         due("this one", x.waits(1), 1);
     }
 
+    @Says("What is asked changes nothing, but where it is told.")
+    static void promise17_askedChangesNothing() {
+        for (int p = 0; p < 6; p++) {
+            asked("waits", p);
+        }
+    }
+
     // ---- 18: pair
 
     @Says("(what 0; -1: there are no two), how many (1; -1). BAD.")
@@ -580,8 +633,6 @@ public final class BoundaryMinutesTest extends BoundaryKit {
             refused(-2, "pair", what);
             due("ahead of there are no two", new KeysForSecond().pair(what), -2);
         }
-        asked("pair", 0);
-        asked("pair", 1);
     }
 
     @Says("(what 0; -1: there are no two), how many (1; -1).")
@@ -591,6 +642,14 @@ public final class BoundaryMinutesTest extends BoundaryKit {
         due("one", people(0, 99).pair(0), -1);
         due("one, how many", people(0, 99).pair(1), -1);
         due("two", people(0, 0, 0, 0).pair(0), 10);
+    }
+
+    @Says("(a -1 that is an answer comes behind the refusal of a number)")
+    static void promise18_aRefusalAheadOfNoTwo() {
+        for (int what : new int[] {-1, 2}) {
+            due("nobody", new KeysForSecond().pair(what), -2);
+            due("one", people(0, 0).pair(what), -2);
+        }
     }
 
     @Says("that other one would have most EGGS, of like ones the first by that number")
@@ -639,6 +698,12 @@ public final class BoundaryMinutesTest extends BoundaryKit {
         due("0, 1", x.pair(0), 10);
     }
 
+    @Says("What is asked changes nothing, but where it is told.")
+    static void promise18_askedChangesNothing() {
+        asked("pair", 0);
+        asked("pair", 1);
+    }
+
     // ---- 19: stand
 
     @Says("-5: none such;")
@@ -660,9 +725,6 @@ public final class BoundaryMinutesTest extends BoundaryKit {
             refused(-7, "stand", 0, 0, what);
             refused(-7, "stand", 5, 40, what);
         }
-        asked("stand", 0, 40, 0);
-        asked("stand", 5, 40, 1);
-        asked("stand", 3, 0, 0);
     }
 
     @Says("-5: none such; -7: n, what.")
@@ -705,6 +767,13 @@ public final class BoundaryMinutesTest extends BoundaryKit {
         due("0 and 7", x.stand(0, 1, 0), 0);
     }
 
+    @Says("What is asked changes nothing, but where it is told.")
+    static void promise19_askedChangesNothing() {
+        asked("stand", 0, 40, 0);
+        asked("stand", 5, 40, 1);
+        asked("stand", 3, 0, 0);
+    }
+
     // ---- 20: rounds
 
     @Says("how many (1; as so). BAD.")
@@ -718,9 +787,6 @@ public final class BoundaryMinutesTest extends BoundaryKit {
             refused(-2, "rounds", 0, what);
             refused(-2, "rounds", 40, what);
         }
-        asked("rounds", 0, 0);
-        asked("rounds", 40, 0);
-        asked("rounds", 40, 1);
     }
 
     @Says("(what 0; -1: nobody), how many (1; as so).")
@@ -729,6 +795,14 @@ public final class BoundaryMinutesTest extends BoundaryKit {
         due("so none", new KeysForSecond().rounds(40, 1), 0);
         due("one alone", people(10, 0).rounds(5, 0), -1);
         due("so none", people(10, 0).rounds(5, 1), 0);
+    }
+
+    @Says("(a -1 that is an answer comes behind the refusal of a number)")
+    static void promise20_aRefusalAheadOfNobody() {
+        due("n 41", new KeysForSecond().rounds(41, 0), -2);
+        due("n -1", new KeysForSecond().rounds(-1, 0), -2);
+        due("what 2", people(0, 0).rounds(0, 2), -2);
+        due("what -1", people(0, 0).rounds(0, -1), -2);
     }
 
     @Says("if more than so, of like ones the first")
@@ -790,6 +864,13 @@ public final class BoundaryMinutesTest extends BoundaryKit {
         due("midnight shuts all", x.rounds(20, 1), 0);
     }
 
+    @Says("What is asked changes nothing, but where it is told.")
+    static void promise20_askedChangesNothing() {
+        asked("rounds", 0, 0);
+        asked("rounds", 40, 0);
+        asked("rounds", 40, 1);
+    }
+
     // ---- 21: tries
 
     @Says("how many have none (1). BAD.")
@@ -798,8 +879,6 @@ public final class BoundaryMinutesTest extends BoundaryKit {
             refused(-2, "tries", what);
             due("of nobody", new KeysForSecond().tries(what), -2);
         }
-        asked("tries", 0);
-        asked("tries", 1);
     }
 
     @Says("-1: there are fewer than two PEOPLE, and some DOOR has none")
@@ -812,6 +891,14 @@ public final class BoundaryMinutesTest extends BoundaryKit {
         due("eight have none", x.tries(1), 8);
         x.citizen(0, 0);
         due("two", x.tries(0), 15);
+    }
+
+    @Says("(a -1 that is an answer comes behind the refusal of a number)")
+    static void promise21_aRefusalAheadOfFewerThanTwo() {
+        for (int what : new int[] {-1, 2}) {
+            due("nobody", new KeysForSecond().tries(what), -2);
+            due("one", people(0, 0).tries(what), -2);
+        }
     }
 
     @Says("By how few TRIES, of whomever there is, all DOORS have a SECOND")
@@ -849,6 +936,12 @@ public final class BoundaryMinutesTest extends BoundaryKit {
         due("midnight", x.tries(0), 16);
     }
 
+    @Says("What is asked changes nothing, but where it is told.")
+    static void promise21_askedChangesNothing() {
+        asked("tries", 0);
+        asked("tries", 1);
+    }
+
     // ---- 22: share
 
     @Says("NO: none such, there are none.")
@@ -863,8 +956,6 @@ public final class BoundaryMinutesTest extends BoundaryKit {
         }
         due("nobody is there", new KeysForSecond().share(0, 0), NO);
         due("one is there", people(0, 0).share(1, 0), NO);
-        asked("share", 0, 0);
-        asked("share", 5, 1);
     }
 
     @Says("NO: none such, there are none.")
@@ -915,5 +1006,11 @@ public final class BoundaryMinutesTest extends BoundaryKit {
             return x;
         };
         share(all, 0, 1, 1);
+    }
+
+    @Says("What is asked changes nothing, but where it is told.")
+    static void promise22_askedChangesNothing() {
+        asked("share", 0, 0);
+        asked("share", 5, 1);
     }
 }

@@ -96,6 +96,17 @@ public final class BoundaryToldTest extends BoundaryKit {
         due("all are otherwise", x.judge(0, 0), 0);
     }
 
+    @Says("(a -1 that is an answer comes behind the refusal of a number)")
+    static void promise23_aRefusalAheadOfNone() {
+        KeysForSecond x = alone();
+        row(x, 0, 0, times(20, 7));
+        row(x, 1, 0, times(21, 7));
+        due("none", x.judge(0, 0), -1);
+        due("none such", x.judge(0, 1), -5);
+        due("more than 20", x.judge(1, 0), -2);
+        due("missing", x.judge(2, 0), -11);
+    }
+
     @Says("A SHEET tells EGGS of one behind 1, 2, .. MINUTES")
     static void promise23_fromTheNextMinuteOn() {
         KeysForSecond x = guest(1, 0, 50);
@@ -104,8 +115,6 @@ public final class BoundaryToldTest extends BoundaryKit {
         row(x, 0, 2, 49, 48, 47);
         due("behind 1, 2, 3", x.judge(0, 1), -1);
         due("in thought", x.told(0, 1), 0);
-        asked("judge", 0, 0);
-        asked("judge", 2, 5);
     }
 
     @Says("the first number (from 0) that is otherwise; -1: none.")
@@ -147,6 +156,12 @@ public final class BoundaryToldTest extends BoundaryKit {
         due("9999 still", x.count(1), 9999);
     }
 
+    @Says("What is asked changes nothing, but where it is told.")
+    static void promise23_askedChangesNothing() {
+        asked("judge", 0, 0);
+        asked("judge", 2, 5);
+    }
+
     // ---- 24: kinds
 
     @Says("BAD, -11, BAD, -5 likewise; -7: sort.")
@@ -162,8 +177,6 @@ public final class BoundaryToldTest extends BoundaryKit {
             refused(-7, "kinds", 0, 0, sort);
             refused(-7, "kinds", 2, 5, sort);
         }
-        asked("kinds", 0, 0, 0);
-        asked("kinds", 0, 5, 1);
     }
 
     @Says("KINDS (sort 0; bits 0 .. 5), MORE (1; bits 0 .. 9) by which, were they one's, that would be -1.")
@@ -212,6 +225,12 @@ public final class BoundaryToldTest extends BoundaryKit {
         due("its more stays", x.told(1, 4), 3);
     }
 
+    @Says("What is asked changes nothing, but where it is told.")
+    static void promise24_askedChangesNothing() {
+        asked("kinds", 0, 0, 0);
+        asked("kinds", 0, 5, 1);
+    }
+
     // ---- 25: doors
 
     @Says("BAD, -11, BAD, -5 likewise.")
@@ -228,8 +247,6 @@ public final class BoundaryToldTest extends BoundaryKit {
         due("all", x.doors(0, 0), 255);
         x.cell(0, 19, 8);
         due("none", x.doors(0, 0), 0);
-        asked("doors", 0, 0);
-        asked("doors", 2, 5);
     }
 
     @Says("DOORS (bits) by which, were one AT it now, that would be -1.")
@@ -247,6 +264,12 @@ public final class BoundaryToldTest extends BoundaryKit {
         }
     }
 
+    @Says("What is asked changes nothing, but where it is told.")
+    static void promise25_askedChangesNothing() {
+        asked("doors", 0, 0);
+        asked("doors", 2, 5);
+    }
+
     // ---- 26: baskets
 
     @Says("BAD, -11, BAD, -5 likewise; -7: what.")
@@ -262,8 +285,6 @@ public final class BoundaryToldTest extends BoundaryKit {
             refused(-7, "baskets", 0, 0, what);
             refused(-7, "baskets", 2, 5, what);
         }
-        asked("baskets", 0, 0, 0);
-        asked("baskets", 2, 5, 1);
     }
 
     private static void baskets(KeysForSecond x, int p, int told, int many, int least) {
@@ -293,6 +314,16 @@ public final class BoundaryToldTest extends BoundaryKit {
         due("0 at least", x.baskets(0, 0, 1), 0);
     }
 
+    @Says("(a -1 that is an answer comes behind the refusal of a number)")
+    static void promise26_aRefusalAheadOfNone() {
+        KeysForSecond x = alone();
+        row(x, 0, 2, 100);
+        due("none", x.baskets(0, 0, 1), -1);
+        due("what 2", x.baskets(0, 0, 2), -7);
+        due("none such", x.baskets(0, 1, 1), -5);
+        due("missing", x.baskets(1, 0, 1), -11);
+    }
+
     @Says("EGGS (0 .. 99) by which, had one so many now")
     static void promise26_severalAndTheLeastOfThem() {
         KeysForSecond x = guest(3, 0, 50);
@@ -305,6 +336,12 @@ public final class BoundaryToldTest extends BoundaryKit {
         baskets(x, 1, 9, 4, 0);
         baskets(x, 1, 98, 1, 92);
         baskets(x, 1, 99, 7, 93);
+    }
+
+    @Says("What is asked changes nothing, but where it is told.")
+    static void promise26_askedChangesNothing() {
+        asked("baskets", 0, 0, 0);
+        asked("baskets", 2, 5, 1);
     }
 
     // ---- 27: firsts
@@ -322,8 +359,6 @@ public final class BoundaryToldTest extends BoundaryKit {
             refused(-7, "firsts", 0, 0, d);
             refused(-7, "firsts", 2, 5, d);
         }
-        asked("firsts", 0, 0, 0);
-        asked("firsts", 2, 5, 7);
     }
 
     @Says("PEOPLE (bits 0 .. 5), and nobody (bit 6)")
@@ -359,6 +394,25 @@ public final class BoundaryToldTest extends BoundaryKit {
         }
     }
 
+    @Says("PEOPLE (bits 0 .. 5), and nobody (bit 6)")
+    static void promise27_nobodyIsNotTheFirstOne() {
+        for (int d : new int[] {0, 7}) {
+            KeysForSecond x = ruled("1", "3", "0", 50, 300, 50, 400, 50, 500, 50, 600, 50, 200, 0, 100 * d + 50);
+            behindAll(x, 0);
+            row(x, 0, 0, 50);
+            due("oneself, nobody", x.firsts(0, 5, d), 32 + 64);
+            row(x, 0, 0, 47);
+            due("anybody else", x.firsts(0, 5, d), 31);
+            due("none is first still", x.door(d, 0), -1);
+        }
+    }
+
+    @Says("What is asked changes nothing, but where it is told.")
+    static void promise27_askedChangesNothing() {
+        asked("firsts", 0, 0, 0);
+        asked("firsts", 2, 5, 7);
+    }
+
     // ---- 28: whose
 
     @Says("BAD, -11, BAD likewise.")
@@ -375,9 +429,6 @@ public final class BoundaryToldTest extends BoundaryKit {
             KeysForSecond nobody = new KeysForSecond();
             nobody.sheet(0, 2, n);
             due(n + " numbers of nobody", nobody.whose(0), -2);
-        }
-        for (int s = 0; s < 3; s++) {
-            asked("whose", s);
         }
     }
 
@@ -402,6 +453,13 @@ public final class BoundaryToldTest extends BoundaryKit {
         due("the first and the last", x.whose(1), 33);
     }
 
+    @Says("What is asked changes nothing, but where it is told.")
+    static void promise28_askedChangesNothing() {
+        for (int s = 0; s < 3; s++) {
+            asked("whose", s);
+        }
+    }
+
     // ---- 29: laws
 
     @Says("BAD, -11, BAD, -5 likewise.")
@@ -423,8 +481,6 @@ public final class BoundaryToldTest extends BoundaryKit {
         }
         text(x, "tries1;pays2;goes");
         due("a fault is no text", x.laws(0, 0), 63);
-        asked("laws", 0, 0);
-        asked("laws", 2, 5);
     }
 
     @Says("TEXTS (bits), were they THE LAW, by which that would be -1.")
@@ -444,6 +500,12 @@ public final class BoundaryToldTest extends BoundaryKit {
         row(x, 0, 0, 48, 46);
         due("the first one goes on", x.laws(0, 1), 1);
         due("the law stays", x.count(4), 3);
+    }
+
+    @Says("What is asked changes nothing, but where it is told.")
+    static void promise29_askedChangesNothing() {
+        asked("laws", 0, 0);
+        asked("laws", 2, 5);
     }
 
     // ---- 30: film

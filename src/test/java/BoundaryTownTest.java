@@ -101,9 +101,6 @@ public final class BoundaryTownTest extends BoundaryKit {
         for (int what : new int[] {-1, 6, 7, MIN, MAX}) {
             refused(-2, "count", what);
         }
-        for (int what = 0; what < 6; what++) {
-            asked("count", what);
-        }
     }
 
     @Says("0 PEOPLE, 1 MINUTE, 2 DOORS with a SECOND, 3 TEXTS, 4 THE LAW, 5 bytes of THE TAPE.")
@@ -152,6 +149,13 @@ public final class BoundaryTownTest extends BoundaryKit {
         x.put(0, 0, 3);
         x.minute();
         due("midnight", x.count(2), 0);
+    }
+
+    @Says("What is asked changes nothing, but where it is told.")
+    static void promise2_askedChangesNothing() {
+        for (int what = 0; what < 6; what++) {
+            asked("count", what);
+        }
     }
 
     // ---- 3: town
@@ -251,6 +255,17 @@ public final class BoundaryTownTest extends BoundaryKit {
         refused(-5, "town", 2, -1, 6);
     }
 
+    @Says("MINUTE (what 0; d does not matter), BEHIND of a DOOR (1), its FIRST (2; -1: none) becomes v: what it was.")
+    static void promise3_eachWhatIsItsOwn() {
+        KeysForSecond x = people(0, 0, 0, 0);
+        due("minute", x.town(0, 7, 1), 0);
+        due("behind", x.town(1, 7, 0), 10);
+        due("first", x.town(2, 7, 1), -1);
+        due("minute is", x.count(1), 1);
+        due("behind is", x.door(7, 2), 0);
+        due("first is", x.door(7, 0), 1);
+    }
+
     @Says("At last MINUTE is 1 more; is that of the day 0 then, no DOOR has a FIRST, nor a SECOND, any more.")
     static void promise3_aMinuteThatIsSetIsNoMidnight() {
         KeysForSecond x = people(0, 0, 0, 0);
@@ -280,6 +295,22 @@ public final class BoundaryTownTest extends BoundaryKit {
         for (int d : new int[] {-1, 8, MIN, MAX}) {
             refused(-5, "door", d, 0);
             refused(-5, "door", d, 3);
+        }
+    }
+
+    @Says("DOORS 0 .. 7: BEHIND (0 .. 99 eggs; 10 at first)")
+    static void promise4_eightDoors() {
+        KeysForSecond x = people(0, 0, 0, 100, 0, 200, 0, 300, 0, 400, 0, 700);
+        for (int d = 0; d < 8; d++) {
+            x.town(1, d, 90 + d);
+            x.town(2, d, d % 6);
+        }
+        int[] at = {1, 2, 4, 8, 16, 0, 0, 32};
+        for (int d = 0; d < 8; d++) {
+            due("first of " + d, x.door(d, 0), d % 6);
+            due("second of " + d, x.door(d, 1), -1);
+            due("behind " + d, x.door(d, 2), 90 + d);
+            due("at " + d, x.door(d, 3), at[d]);
         }
     }
 
@@ -328,7 +359,7 @@ public final class BoundaryTownTest extends BoundaryKit {
         due("nobody any more", x.door(7, 3), 0);
     }
 
-    @Says("What 0 FIRST (-1), 1 SECOND (-1), 2 BEHIND, 3 who is AT it (bits) of a DOOR.")
+    @Says("What is asked changes nothing, but where it is told.")
     static void promise4_askedChangesNothing() {
         for (int what = 0; what < 4; what++) {
             asked("door", 0, what);
@@ -477,6 +508,31 @@ public final class BoundaryTownTest extends BoundaryKit {
         due("and again", x.text(), -100);
     }
 
+    @Says("(the text's size, if it ends too early)")
+    static void promise6_nothingOfAnEarlierTape() {
+        String[][] rows = {{"tries doorx", "tries door"}, {"tries 12345", "tries 1234"}, {"tries 1   x", "tries 1 "},
+            {"tries 1 ;pays", "tries 1"}, {"tries", ""}, {"tries (1", "tries ("}};
+        for (String[] row : rows) {
+            KeysForSecond x = new KeysForSecond();
+            text(x, row[0]);
+            due("'" + row[1] + "' behind '" + row[0] + "'", text(x, row[1]), -100 - row[1].length());
+        }
+    }
+
+    @Says("THE TAPE (160 bytes at most)")
+    static void promise6_aTokenAtTheEndOf160Bytes() {
+        String[] ends = {"tries", "tries 1234", "tries minute", "tries 1;pays 1;goes", "tries 1;pays 1;goes 1", "tries not",
+            "tries 1 or", "tries 1;", "tries (", "tries 1<"};
+        for (String end : ends) {
+            fault(" ".repeat(160 - end.length()) + end, 160);
+        }
+        fault(" ".repeat(150) + "tries doox", 156);
+        fault(" ".repeat(149) + "tries 12345", 155);
+        fault(" ".repeat(159) + "x", 159);
+        fault(" ".repeat(159) + "1", 159);
+        fine(" ".repeat(138) + "tries 1;pays 1;goes 1;");
+    }
+
     @Says("A TEXT is read from THE TAPE (160 bytes at most).")
     static void promise6_160Bytes() {
         KeysForSecond x = new KeysForSecond();
@@ -576,6 +632,58 @@ public final class BoundaryTownTest extends BoundaryKit {
             faultIn("1 " + word + " 1", 2);
             faultIn(word, 0);
         }
+    }
+
+    @Says("TOKENS, each as long as can be: WORDS (as many letters a .. z as stand there)")
+    static void promise6_lettersAToZ() {
+        for (char c = 'a'; c <= 'z'; c++) {
+            faultIn("door" + c, 0);
+            faultIn(c + "door", 0);
+            faultIn("1" + c, 1);
+        }
+        for (char c : new char[] {'`', '{', '@', 'A', 'Z', '[', 127, 225}) {
+            faultIn("door" + c, 4);
+            faultIn(c + "door", 0);
+        }
+    }
+
+    @Says("NUMBERS (as many digits as stand there; more than 4 are too long)")
+    static void promise6_digits0To9() {
+        for (char c = '0'; c <= '9'; c++) {
+            fineIn("12" + c);
+            fineIn(c + "12");
+            faultIn("1234" + c, 0);
+            faultIn(c + "door", 1);
+            faultIn("door" + c, 4);
+        }
+        faultIn("1/", 1);
+        faultIn("1:", 1);
+        faultIn("/1", 0);
+        faultIn(":1", 0);
+        fineIn("1234+1234");
+    }
+
+    @Says("SIGNS ( ) ; + - * < = ; blanks (32, 10) may stand between.")
+    static void promise6_eachSignIsAToken() {
+        fineIn("1+--1");
+        faultIn("1<<1", 2);
+        faultIn("1==1", 2);
+        faultIn("1=<1", 2);
+        faultIn("1**1", 2);
+        faultIn("1+*1", 2);
+        faultIn("(-)", 2);
+        for (char c : new char[] {'\'', ',', '.', '/', ':', '>', '!', '&', '|', '[', ']', '{', '}', '%'}) {
+            faultIn("1" + c + "1", 1);
+        }
+    }
+
+    @Says("FAULT: the place of the first byte of the first TOKEN that can't stand there")
+    static void promise6_theFirstByteOfTheToken() {
+        fault("  \n  pays 1;", 5);
+        fault("tries \n  eggss;", 9);
+        fault("tries   12345;", 8);
+        fault("tries 1  minute;", 9);
+        fault("tries 1;pays 1;  goess 1;", 17);
     }
 
     @Says("more than 4 are too long")
@@ -811,10 +919,6 @@ public final class BoundaryTownTest extends BoundaryKit {
         for (int part : new int[] {-1, 3, MIN, MAX}) {
             refused(-1000, "asks", part, 0);
         }
-        for (int part = 0; part < 3; part++) {
-            asked("asks", part, 0);
-            asked("asks", part, 5);
-        }
     }
 
     @Says("-1000: none such.")
@@ -930,7 +1034,17 @@ public final class BoundaryTownTest extends BoundaryKit {
         value("1+(1<2)", 2);
     }
 
-    @Says("minute: MINUTE of the day;")
+    @Says("a - ahead of a ONE while 5 of these are open")
+    static void promise8_asDeepAsATextCanBe() {
+        value("0or1and5=3+2*(0or1and5=3+2*(0or1and5=3+2*(0or1and5=3+2*(0or1and5=3+2*(0or1and5=3+2*1)))))", 1);
+        value("0or1and5=3+2*(0or1and5=3+2*(0or1and5=3+2*(0or1and5=3+2*(0or1and5=3+2*(0or1and5=3+2*2)))))", 0);
+        value("9-(8-(7-(6-(5-(4-1-1)))))", 9 - (8 - (7 - (6 - (5 - (4 - 1 - 1))))));
+        value("-----5", -5);
+        value("not not not not not 5", 0);
+        value("(((((5)))))", 5);
+    }
+
+    @Says("in thought it may pass 9999); of the day: modulo 20.")
     static void promise8_minuteOfTheDay() {
         KeysForSecond x = ruled("1", "1", "minute", 0, 0);
         int[][] rows = {{0, 0}, {1, 1}, {19, 19}, {20, 0}, {21, 1}, {39, 19}, {40, 0}, {9979, 19}, {9980, 0}, {9999, 19}};
@@ -984,6 +1098,14 @@ public final class BoundaryTownTest extends BoundaryKit {
             for (int part = 0; part < 3; part++) {
                 due("part " + part + " of " + p, x.asks(part, p), 5 + part);
             }
+        }
+    }
+
+    @Says("What is asked changes nothing, but where it is told.")
+    static void promise8_askedChangesNothing() {
+        for (int part = 0; part < 3; part++) {
+            asked("asks", part, 0);
+            asked("asks", part, 5);
         }
     }
 
@@ -1135,11 +1257,6 @@ public final class BoundaryTownTest extends BoundaryKit {
         for (int what : new int[] {-1, 9, MIN, MAX}) {
             refused(-7, "told", 0, what);
             refused(-7, "told", 5, what);
-        }
-        for (int what = 0; what <= 8; what++) {
-            for (int p = 0; p < 6; p++) {
-                asked("told", p, what);
-            }
         }
     }
 
@@ -1359,6 +1476,33 @@ public final class BoundaryTownTest extends BoundaryKit {
         due("but it would be 0", y.told(0, 8), 0);
     }
 
+    @Says("5 whether one TRIES now (1, 0)")
+    static void promise11_triesIs1Or0() {
+        for (int tries : new int[] {1, 2, 99, 100, 9999}) {
+            due("tries " + tries, ruled("" + tries, "1", "1", 0, 0).told(0, 5), 1);
+        }
+        due("tries 0", ruled("0", "1", "1", 0, 0).told(0, 5), 0);
+    }
+
+    @Says("7 how many DOORS on one GOES (10 more than that)")
+    static void promise11_goesIs10More() {
+        String[] laws = {"-99", "-1", "0", "1", "99"};
+        int[] due = {9, 9, 10, 11, 11};
+        for (int i = 0; i < laws.length; i++) {
+            due("goes " + laws[i], ruled("1", "1", laws[i], 0, 700).told(0, 7), due[i]);
+        }
+    }
+
+    @Says("What 0 the DOOR one is AT, 1 EGGS, 2 CAME, 3 KIND, 4 MORE")
+    static void promise11_leastAndMost() {
+        KeysForSecond x = people(0, 0, 59, 799);
+        int[] most = {7, 99, 0, 5, 9};
+        for (int what = 0; what < 5; what++) {
+            due("least of " + what, x.told(0, what), 0);
+            due("most of " + what, x.told(1, what), most[what]);
+        }
+    }
+
     @Says("CAME: how often one came in (0 .. 99; 0 as one comes)")
     static void promise11_cameUpTo99() {
         KeysForSecond x = people(0, 0, 0, 0);
@@ -1381,5 +1525,14 @@ public final class BoundaryTownTest extends BoundaryKit {
         x.twist(1);
         due("pays of what it found", x.told(1, 6), 10);
         due("goes back, since it came in", x.told(1, 7), 9);
+    }
+
+    @Says("What is asked changes nothing, but where it is told.")
+    static void promise11_askedChangesNothing() {
+        for (int what = 0; what <= 8; what++) {
+            for (int p = 0; p < 6; p++) {
+                asked("told", p, what);
+            }
+        }
     }
 }
