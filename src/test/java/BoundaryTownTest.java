@@ -569,6 +569,40 @@ public final class BoundaryTownTest extends BoundaryKit {
         faultIn("", 0);
     }
 
+    @Says("FAULT: the place of the first byte of the first TOKEN that can't stand there")
+    static void promise6_eachWordWhereItCantStand() {
+        String[] words = {"tries", "pays", "goes", "or", "and", "not", "door", "eggs", "minute", "tried", "came", "more"};
+        for (int w = 0; w < words.length; w++) {
+            String word = words[w];
+            if (w == 3 || w == 4) {
+                fineIn("1 " + word + " 1");
+            } else {
+                faultIn("1 " + word + " 1", 2);
+            }
+            if (w == 5) {
+                fineIn(word + " 1");
+            } else {
+                faultIn(word + " 1", w < 5 ? 0 : word.length() + 1);
+            }
+            if (w < 6) {
+                faultIn("1+" + word + " 1", 2);
+            }
+            String[] keys = {"tries", "pays", "goes"};
+            for (int part = 0; part < 3; part++) {
+                keys[part] = word;
+                String bytes = keys[0] + " 1;" + keys[1] + " 1;" + keys[2] + " 1;";
+                int place = part == 0 ? 0 : part == 1 ? 8 : 15;
+                if (w == part) {
+                    fine(bytes);
+                } else {
+                    fault(bytes, place);
+                }
+                keys[part] = words[part];
+            }
+            fault("tries 1;pays 1;goes 1;" + word, 22);
+        }
+    }
+
     @Says("also of a byte that begins none")
     static void promise6_eachByteAheadOfAnE() {
         for (int b = 0; b < 256; b++) {
