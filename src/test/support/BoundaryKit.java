@@ -20,7 +20,7 @@ import java.util.regex.Matcher;
 import java.util.regex.Pattern;
 
 /**
- * What the tests of the document's boundary sentences share. A test is a static method without arguments, named by
+ * What the tests of the document's sentences share, of ordinary use and of boundaries. A test is a static method without arguments, named by
  * its promise's number ("promise7_..") and marked with the words of ../shared/DOC.md that it holds the class to.
  */
 abstract class BoundaryKit {
@@ -41,6 +41,7 @@ abstract class BoundaryKit {
 
     private static int checks = 0;
     private static int wrong = 0;
+    private static int many = 0;
     private static String test = "";
 
     // ---- what a test says
@@ -247,11 +248,37 @@ abstract class BoundaryKit {
 
     /** Runs all tests of a class and ends the program with 1, if one fails or a promise from .. to has a gap. */
     static void run(Class<?> tests, int from, int to) throws IOException {
-        Map<Integer, List<String>> words = new TreeMap<>();
         String document = plain(Files.readString(DOCUMENT));
+        Map<Integer, List<String>> words = runAll(tests, from, to, document);
+        for (int promise = from; promise <= to; promise++) {
+            gaps(promise, promiseOf(document, promise), words.getOrDefault(promise, List.of()));
+        }
+        finish(from, to);
+    }
+
+    /** Likewise, but the refusals that a promise names are left to others. */
+    static void runOrdinary(Class<?> tests, int from, int to) throws IOException {
+        Map<Integer, List<String>> words = runAll(tests, from, to, plain(Files.readString(DOCUMENT)));
+        for (int promise = from; promise <= to; promise++) {
+            if (!words.containsKey(promise)) {
+                fail("no test of promise " + promise);
+            }
+        }
+        finish(from, to);
+    }
+
+    private static void finish(int from, int to) {
+        System.out.println(many + " sentences of promises " + from + " to " + to + ", " + checks + " checks, "
+            + wrong + " wrong");
+        if (wrong != 0) {
+            System.exit(1);
+        }
+    }
+
+    private static Map<Integer, List<String>> runAll(Class<?> tests, int from, int to, String document) {
+        Map<Integer, List<String>> words = new TreeMap<>();
         Method[] methods = tests.getDeclaredMethods();
         Arrays.sort(methods, Comparator.comparing(Method::getName));
-        int many = 0;
         for (Method m : methods) {
             Matcher name = NAME.matcher(m.getName());
             if (name.matches()) {
@@ -267,14 +294,7 @@ abstract class BoundaryKit {
             }
         }
         test = tests.getSimpleName();
-        for (int promise = from; promise <= to; promise++) {
-            gaps(promise, promiseOf(document, promise), words.getOrDefault(promise, List.of()));
-        }
-        System.out.println(many + " sentences of promises " + from + " to " + to + ", " + checks + " checks, "
-            + wrong + " wrong");
-        if (wrong != 0) {
-            System.exit(1);
-        }
+        return words;
     }
 
     private static void runOne(Method m) {
