@@ -1,6 +1,6 @@
 import java.io.IOException;
 
-/** What the document says of ordinary use, promise by promise; all that is due here was counted by hand. */
+/** What the document says of ordinary use, promise by promise; what is due was counted by hand, but for days by lots. */
 public final class OrdinaryUseTest extends BoundaryKit {
     public static void main(String[] args) throws IOException {
         runOrdinary(OrdinaryUseTest.class, 1, 39);
